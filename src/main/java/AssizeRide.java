@@ -1307,8 +1307,8 @@ public final class AssizeRide {
         int faultPlace = NONE;
         private final Tape tape;
         private final Law law;
-        private final long[] clauseWords = new long[17];
-        private final long[] joiningWords = new long[7];
+        private final long[] clauseWords;
+        private final long[] joiningWords;
         // An open bracket leaves at most "or", "and", "not" and itself waiting.
         private final int[] waiting = new int[4 * (MOST_OPEN + 1)];
         private int waits = 0;
@@ -1322,11 +1322,13 @@ public final class AssizeRide {
         ActReader(Tape tape, Law law) {
             this.tape = tape;
             this.law = law;
-            spell(CLAUSE_WORDS, clauseWords);
-            spell(JOINING_WORDS, joiningWords);
+            clauseWords = spell(CLAUSE_WORDS, STAND + 1);
+            joiningWords = spell(JOINING_WORDS, IS + 1);
         }
 
-        private static void spell(String text, long[] words) {
+        /** The WORDS of a text, each with a blank behind it, as the tape numbers them. */
+        private static long[] spell(String text, int size) {
+            long[] words = new long[Math.max(size, 0)];
             int n = 0;
             for (int i = 0; i < text.length() && n < words.length; i++) {
                 char c = text.charAt(i);
@@ -1336,6 +1338,7 @@ public final class AssizeRide {
                     words[n] = words[n] * 32 + (c - 'a' + 1);
                 }
             }
+            return words;
         }
 
         private static int placeOf(long word, long[] words) {

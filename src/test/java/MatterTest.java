@@ -1,3 +1,7 @@
+import java.util.ArrayList;
+import java.util.List;
+import java.util.Random;
+
 /** Promises 21 to 28: how MATTERS begin, INDICTMENTS and BILLS. */
 public final class MatterTest {
     private static final Clerk c = new Clerk();
@@ -11,6 +15,7 @@ public final class MatterTest {
         badness();
         mending();
         mendingOrder();
+        mendingAsWoven();
         mendingIsLimited();
         bills();
         c.close();
@@ -201,6 +206,51 @@ public final class MatterTest {
         Clerk.say(x, "strike 0; deed t = a; mend t; words t " + want + ";").act(0, 63);
         c.due(law + " into " + row + " is " + want, x.bad(0), 0);
         c.due(law + " into " + row + " is no more", x.mend(0), 0);
+    }
+
+    /** The weave as the document tells it, with the fewest found by trying out. */
+    private static void mendingAsWoven() {
+        Random random = new Random(9);
+        for (int round = 0; round < 300; round++) {
+            List<String> law = letters(random, 4);
+            List<String> row = letters(random, 4);
+            List<String> want = new ArrayList<>();
+            int i = 0;
+            int j = 0;
+            while (i < row.size() || j < law.size()) {
+                boolean both = i < row.size() && j < law.size() && row.get(i).equals(law.get(j));
+                if (both) {
+                    want.add(row.get(i++));
+                    j++;
+                } else if (i == row.size() || j < law.size() && fewest(row, i, law, j + 1) + 1 == fewest(row, i, law, j)) {
+                    want.add(law.get(j++));
+                } else {
+                    want.add(row.get(i++));
+                }
+            }
+            woven(String.join(" ", law), String.join(" ", row), String.join(" ", want));
+        }
+    }
+
+    private static List<String> letters(Random random, int most) {
+        List<String> letters = new ArrayList<>();
+        for (int n = 1 + random.nextInt(most); n > 0; n--) {
+            letters.add("" + (char) ('a' + random.nextInt(3)));
+        }
+        return letters;
+    }
+
+    private static int fewest(List<String> row, int i, List<String> law, int j) {
+        if (j == law.size()) {
+            return 0;
+        }
+        int put = 1 + fewest(row, i, law, j + 1);
+        for (int at = i; at < row.size(); at++) {
+            if (row.get(at).equals(law.get(j))) {
+                put = Math.min(put, fewest(row, at + 1, law, j + 1));
+            }
+        }
+        return put;
     }
 
     private static void mendingIsLimited() {
