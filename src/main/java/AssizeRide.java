@@ -390,7 +390,7 @@ public final class AssizeRide {
 
     public int juror(int m, int i) {
         Matter x = docket.find(m);
-        return x == null || !within(i, 0, x.jurors.size - 1) ? NONE : (int) x.jurors.nameAt(i);
+        return x == null ? NONE : (int) x.jurors.nameAt(i);
     }
 
     public int hear(int m) {
@@ -1133,16 +1133,23 @@ public final class AssizeRide {
             return NONE;
         }
 
-        private boolean isBegun(int a, int day, int shire) {
-            return firstDays[a] <= day && (places[a] >> shire & 1) == 1;
+        /** The ACTS that are begun on a day and hold in a SHIRE, as bits. */
+        private int actsBegun(int day, int shire) {
+            int bits = 0;
+            for (int a = 0; a < acts; a++) {
+                if (firstDays[a] <= day && (places[a] >> shire & 1) == 1) {
+                    bits |= 1 << a;
+                }
+            }
+            return bits;
         }
 
         /** A strike counts though it is struck itself: the document asks only that its ACT has it. */
-        private boolean isStruck(int a, long deed, int day, int shire) {
+        private boolean isStruck(int a, long deed, int begun) {
             for (int c = firstClauses[a + 1]; c < firstClauses[acts]; c++) {
                 if (kinds[c] == STRIKE && numbers[c] == a
                         && (deeds[c] == Tape.NO_WORD || deeds[c] == deed)
-                        && isBegun(owners[c], day, shire)) {
+                        && (begun >> owners[c] & 1) == 1) {
                     return true;
                 }
             }
@@ -1150,17 +1157,18 @@ public final class AssizeRide {
         }
 
         /** The clause of one ACT that HOLDS. */
-        private int clauseHolding(int a, int kind, long deed, int day, int shire) {
-            if (!isBegun(a, day, shire)) {
+        private int clauseHolding(int a, int kind, long deed, int begun) {
+            if ((begun >> a & 1) == 0) {
                 return NONE;
             }
             int c = clauseAmong(firstClauses[a], firstClauses[a + 1], kind, deed);
-            return c == NONE || isStruck(a, deed, day, shire) ? NONE : c;
+            return c == NONE || isStruck(a, deed, begun) ? NONE : c;
         }
 
         int clauseInForce(int kind, long deed, int day, int shire) {
+            int begun = actsBegun(day, shire);
             for (int a = acts - 1; a >= 0; a--) {
-                int c = clauseHolding(a, kind, deed, day, shire);
+                int c = clauseHolding(a, kind, deed, begun);
                 if (c != NONE) {
                     return c;
                 }
@@ -1182,11 +1190,11 @@ public final class AssizeRide {
         }
 
         int quarrelling(int kind, long deed, int day, int shire) {
+            int begun = actsBegun(day, shire);
             int latest = actInForce(kind, deed, day, shire);
             int bits = 0;
             for (int a = 0; a <= latest; a++) {
-                if (firstDays[a] == firstDays[latest]
-                        && clauseHolding(a, kind, deed, day, shire) != NONE) {
+                if (firstDays[a] == firstDays[latest] && clauseHolding(a, kind, deed, begun) != NONE) {
                     bits |= 1 << a;
                 }
             }
@@ -1318,6 +1326,9 @@ public final class AssizeRide {
         private int kind = Tape.END;
         private long word = Tape.NO_WORD;
         private int joiner = NONE;
+        private int clauseWord = NONE;
+        private int clause = NONE;
+        private long deed = Tape.NO_WORD;
 
         ActReader(Tape tape, Law law) {
             this.tape = tape;
@@ -1371,7 +1382,7 @@ public final class AssizeRide {
                 if (kind == Tape.END) {
                     return true;
                 }
-                if (!readClause()) {
+                if (!readHead() || !readBody()) {
                     return false;
                 }
                 if (kind != ';') {
@@ -1382,53 +1393,57 @@ public final class AssizeRide {
             return fail(SYNTAX);
         }
 
-        private boolean readClause() {
-            int which = placeOf(word, clauseWords);
-            if (which == NONE) {
+        /** Reads a clause's first word, and the deed's where it has one. */
+        private boolean readHead() {
+            clauseWord = placeOf(word, clauseWords);
+            if (clauseWord == NONE) {
                 return fail(SYNTAX);
             }
-            int clause = which == REFUSE ? Law.CLERGY : which == STAND ? Law.VOID : which;
-            boolean isPlain = clause >= Law.JURY && clause <= Law.VOID;
-            if (isPlain && law.draftHas(clause, Tape.NO_WORD)) {
+            clause = clauseWord == REFUSE ? Law.CLERGY : clauseWord == STAND ? Law.VOID : clauseWord;
+            deed = Tape.NO_WORD;
+            if (clause != Law.STRIKE && law.draftHas(clause, deed)) {
                 return fail(TWICE);
             }
             if (law.draftClauses() >= Law.MOST_CLAUSES) {
                 return fail(ROOM);
             }
             look(at + 1);
-            if (clause == Law.VOID) {
-                law.draftClause(Law.VOID, Tape.NO_WORD, which == Law.VOID ? 1 : 0);
-                return true;
-            }
-            if (clause == Law.STRIKE) {
-                return readStrike();
-            }
-            return isPlain ? readNumber(clause, Tape.NO_WORD) : readOfDeed(clause, which);
+            return clause >= Law.JURY || readDeedName();
         }
 
-        private boolean readOfDeed(int clause, int which) {
+        private boolean readDeedName() {
+            deed = word;
             if (kind != Tape.WORD) {
                 return fail(SYNTAX);
             }
-            long deed = word;
             if (law.draftHas(clause, deed)) {
                 return fail(TWICE);
             }
             look(at + 1);
+            return true;
+        }
+
+        private boolean readBody() {
             switch (clause) {
                 case Law.DEED:
-                    return readDeed(deed);
+                    return readDeed();
                 case Law.WORDS:
-                    return readWords(deed);
-                case Law.FINE:
-                    return readNumber(clause, deed);
-                default:
-                    law.draftClause(clause, deed, which == REFUSE ? 0 : 1);
+                    return readWords();
+                case Law.STRIKE:
+                    return readStrike();
+                case Law.DEATH:
+                case Law.CLERGY:
+                case Law.KEEP:
+                case Law.MEND:
+                case Law.VOID:
+                    law.draftClause(clause, deed, clauseWord == REFUSE || clauseWord == STAND ? 0 : 1);
                     return true;
+                default:
+                    return readNumber();
             }
         }
 
-        private boolean readNumber(int clause, long deed) {
+        private boolean readNumber() {
             if (kind != Tape.NUMBER) {
                 return fail(SYNTAX);
             }
@@ -1457,7 +1472,7 @@ public final class AssizeRide {
             return true;
         }
 
-        private boolean readWords(long deed) {
+        private boolean readWords() {
             int n = 0;
             while (n < MOST_WORDS && kind == Tape.WORD) {
                 law.draftItem(word);
@@ -1476,7 +1491,7 @@ public final class AssizeRide {
 
         // -- conditions: written behind one another, each "and", "or", "not" behind what it joins
 
-        private boolean readDeed(long deed) {
+        private boolean readDeed() {
             if (kind != '=') {
                 return fail(SYNTAX);
             }
@@ -1498,7 +1513,7 @@ public final class AssizeRide {
                     unless = true;
                 } else if (kind == ';' && open == 0) {
                     release(OR);
-                    closeDeed(deed, unless);
+                    closeDeed(unless);
                     return true;
                 } else {
                     return fail(SYNTAX);
@@ -1508,7 +1523,7 @@ public final class AssizeRide {
             return fail(SYNTAX);
         }
 
-        private void closeDeed(long deed, boolean unless) {
+        private void closeDeed(boolean unless) {
             if (unless) {
                 law.draftItem(Law.NOT);
                 law.draftItem(Law.AND);
@@ -2087,20 +2102,16 @@ public final class AssizeRide {
             for (int m = 0; m < size; m++) {
                 Matter x = find(m);
                 if (x != null && x.state == Matter.KEPT && x.deed == deed) {
-                    settleKept(m, x, as, today);
                     n++;
+                    if (as) {
+                        sentence(m, x, today);
+                    } else {
+                        x.freedByJudges = true;
+                        change(m, Matter.NOT_GUILTY, today);
+                    }
                 }
             }
             return n;
-        }
-
-        private void settleKept(int m, Matter x, boolean as, int today) {
-            if (as) {
-                sentence(m, x, today);
-                return;
-            }
-            x.freedByJudges = true;
-            change(m, Matter.NOT_GUILTY, today);
         }
 
         boolean hadBenefit(int p) {

@@ -131,6 +131,15 @@ public final class JuryTest {
         c.due("jurors stay", x.juror(m, 1), 2);
         int p = Clerk.say(x, "t").plea(0, 1, 0, 0, 0, 5);
         c.due("list of a plea", x.list(p), 4);
+        x.dead(5, 3);
+        x.land(4, 0, 2);
+        c.due("list today", x.list(p), 4);
+        x.pass(2);
+        c.due("list by the land of today", x.list(p), 3);
+        x.pass(1);
+        c.due("list by who lives today", x.list(p), 2);
+        x.land(4, 100, 3);
+        c.due("draw by the land of today", x.draw(p, 2), 4);
     }
 
     private static void challenging() {

@@ -49,6 +49,11 @@ public final class LawTest {
         c.due("a refused one", act(x, 0, 1, "jury 99;"), Clerk.RANGE);
         c.due("keeps the fault", x.fault(1), 8);
         c.due("no act of it", x.count(3), 2);
+        AssizeRide y = new AssizeRide();
+        act(y, 0, 1, "jury 3; deed t = a; words t a b; land;");
+        c.due("none of its clauses is in the next", act(y, 0, 1, "jury 4; deed t = b;"), 0);
+        c.due("clauses of the next", y.told(0, 2), 2);
+        c.due("the next deed is its own", Clerk.say(y, "t; b;").weigh(0, 0), 1);
         c.due("the faulty jury isn't there", x.tells(7, 399, 1), 6);
         for (int a = 2; a < 30; a++) {
             c.due("act " + a, act(x, 10, 1, "land 1;"), a);

@@ -7,6 +7,7 @@ public final class WhatWasTest {
     public static void main(String[] args) {
         rightings();
         statesAsKnown();
+        eachChangeIsOnItsDay();
         checkedStates();
         checkedByIndictment();
         checkedByJurors();
@@ -79,6 +80,56 @@ public final class WhatWasTest {
         c.due("day -1", x.stateOn(m, -1, 0), Clerk.RANGE);
         c.due("known 400", x.stateOn(m, 0, 400), Clerk.RANGE);
         c.due("known -1", x.stateOn(m, 0, -1), Clerk.RANGE);
+    }
+
+    /** A day passes ahead of every change, so that each day's STATE is another. */
+    private static void eachChangeIsOnItsDay() {
+        AssizeRide x = court();
+        int m = Clerk.indict(x, "t", "w", "a;");
+        int[] want = {2, 3, 5, 6, 2, 3, 5, 8, 9};
+        x.pass(1);
+        Clerk.hear(x, m, 1, "a;");
+        x.pass(1);
+        x.judge(m);
+        x.pass(1);
+        x.benefit(m);
+        x.pass(1);
+        x.undo(m);
+        x.pass(1);
+        Clerk.hear(x, m, 1, "a;");
+        x.pass(1);
+        x.judge(m);
+        x.pass(1);
+        x.pardon(m, 1, 20);
+        x.pass(1);
+        x.seen(0, 1);
+        for (int day = 0; day < want.length; day++) {
+            c.due("state on " + day, x.stateOn(m, day, 399), want[day]);
+        }
+        int k = Clerk.indict(x, "t", "w", "a;");
+        int n = Clerk.indict(x, "t", "w", "a;");
+        Clerk.hear(x, k, 1, "a;");
+        Clerk.hear(x, n, 1, "a;");
+        x.pass(1);
+        x.keep(k);
+        x.keep(n);
+        x.pass(1);
+        Clerk.say(x, "t").settle(false);
+        Clerk.hear(x, Clerk.indict(x, "t", "w", "a;"), 1, "a;");
+        c.due("kept on its day", x.stateOn(k, 9, 10), 7);
+        c.due("guilty ahead of it", x.stateOn(k, 8, 10), 3);
+        c.due("settled on its day", x.stateOn(n, 10, 10), 4);
+        x.pass(1);
+        x.undo(n);
+        Clerk.say(x, "t").settle(true);
+        Clerk.hear(x, n, 1, "a;");
+        x.pass(1);
+        x.keep(n);
+        x.pass(1);
+        Clerk.say(x, "t").settle(true);
+        c.due("kept until then", x.stateOn(n, 12, 13), 7);
+        c.due("settled as one on its day", x.stateOn(n, 13, 13), 5);
+        c.due("nothing ahead of its beginning", x.stateOn(n, 7, 13), Clerk.NONE);
     }
 
     private static int indict(AssizeRide x) {
