@@ -2334,7 +2334,7 @@ public final class AssizeRide {
         private final boolean[] clashes = new boolean[MOST * MOST];
         private final int[] trial = new int[MOST];
         private int dayHours = 0;
-        private int most = NONE;
+        private int ceiling = 0;
 
         void beginAnew() {
             size = 0;
@@ -2367,25 +2367,28 @@ public final class AssizeRide {
 
         private void prepare(int hours, Docket docket) {
             dayHours = hours;
+            Arrays.fill(trial, NOT_LAID);
             for (int i = 0; i < size; i++) {
                 Matter x = docket.find(numbers[i]);
                 lengths[i] = x == null ? 1 : x.hoursTaken;
                 for (int j = 0; j < i; j++) {
                     Matter y = docket.find(numbers[j]);
-                    clashes[i * MOST + j] = x != null && y != null && x.sharesPeople(y);
+                    boolean clash = x != null && y != null && x.sharesPeople(y);
+                    clashes[i * MOST + j] = clash;
+                    clashes[j * MOST + i] = clash;
                 }
             }
         }
 
-        /** Whether the i-th MATTER can stand at a place beside those of the trial ahead of it. */
+        /** Whether the i-th MATTER can stand at a place beside the others of the trial. */
         private boolean fits(int i, int place) {
             int hour = place / COURTS;
             if (hour + lengths[i] > dayHours) {
                 return false;
             }
-            for (int j = 0; j < i; j++) {
+            for (int j = 0; j < size; j++) {
                 int other = trial[j] / COURTS;
-                boolean apart = trial[j] == NOT_LAID
+                boolean apart = j == i || trial[j] == NOT_LAID
                         || trial[j] % COURTS != place % COURTS && !clashes[i * MOST + j];
                 if (!apart && hour < other + lengths[j] && other < hour + lengths[i]) {
                     return false;
@@ -2395,31 +2398,62 @@ public final class AssizeRide {
         }
 
         int layBest(int hours, Docket docket) {
-            prepare(hours, docket);
-            most = NONE;
-            tryFrom(0, 0);
+            ceiling = mostByHours(hours, docket);
+            int most = mostLaid(0);
+            tryFrom(0, most);
+            System.arraycopy(trial, 0, places, 0, MOST);
             isLaid = true;
             return most;
         }
 
-        /** Rows come from the least on, so of those that lay as many the first one stays. */
-        private void tryFrom(int i, int laidSoFar) {
-            if (laidSoFar + size - i <= most) {
-                return;
+        /**
+         * The most that can be laid besides the trial. Each right row stays right when its MATTERS, by
+         * their starts, move as far ahead as they can: so only orders and COURTS are tried, not hours.
+         */
+        private int mostLaid(int laidSoFar) {
+            int most = laidSoFar;
+            // The first one's COURT doesn't matter, as both are alike.
+            int courts = laidSoFar == 0 ? 1 : COURTS;
+            for (int i = 0; i < size && most < ceiling; i++) {
+                for (int court = 0; court < courts && trial[i] == NOT_LAID; court++) {
+                    int place = soonest(i, court);
+                    if (place != NONE) {
+                        trial[i] = place;
+                        most = Math.max(most, mostLaid(laidSoFar + 1));
+                        trial[i] = NOT_LAID;
+                    }
+                }
+            }
+            return most;
+        }
+
+        private int soonest(int i, int court) {
+            for (int hour = 0; hour < dayHours; hour++) {
+                if (fits(i, COURTS * hour + court)) {
+                    return COURTS * hour + court;
+                }
+            }
+            return NONE;
+        }
+
+        /** Leaves the first row in the trial, from the least on, that lays so many from the i-th MATTER on. */
+        private boolean tryFrom(int i, int toLay) {
+            if (toLay > size - i) {
+                return false;
             }
             if (i >= size) {
-                most = laidSoFar;
-                System.arraycopy(trial, 0, places, 0, MOST);
-                return;
+                return true;
             }
             for (int place = 0; place < COURTS * dayHours; place++) {
                 if (fits(i, place)) {
                     trial[i] = place;
-                    tryFrom(i + 1, laidSoFar + 1);
+                    if (tryFrom(i + 1, toLay - 1)) {
+                        return true;
+                    }
+                    trial[i] = NOT_LAID;
                 }
             }
-            trial[i] = NOT_LAID;
-            tryFrom(i + 1, laidSoFar);
+            return tryFrom(i + 1, toLay);
         }
 
         int placeOf(int i) {
