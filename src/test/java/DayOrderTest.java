@@ -124,6 +124,30 @@ public final class DayOrderTest {
         laid(y, 0, 99, 1);
         y.best(3);
         laid(y, 0, 2, 1);
+        jurorsInTwo();
+    }
+
+    private static void jurorsInTwo() {
+        AssizeRide x = Clerk.under("deed t = a; bill 0; jury 2; hundred 0;");
+        Clerk.settle(x, 6);
+        int first = Clerk.say(x, "t").plea(4, 5, 0, 0, 0, 1);
+        int second = Clerk.indict(x, "t", "w", "a;");
+        x.put(second);
+        x.put(first);
+        x.draw(second, 0);
+        c.due("nobody is in two", x.best(1), 2);
+        x.draw(second, 3);
+        c.due("the second juror is sued", x.juror(second, 1), 5);
+        c.due("a party here is a juror there", x.best(1), 1);
+        x.challenge(second, 5);
+        x.draw(second, 2);
+        c.due("the second juror sues", x.juror(second, 1), 4);
+        c.due("who sues here is a juror there", x.best(1), 1);
+        x.challenge(second, 4);
+        x.draw(first, 1);
+        c.due("a juror of both", x.best(1), 1);
+        c.due("proven likewise", prove(x, 1, "01"), Clerk.NONE);
+        c.due("one behind the other", prove(x, 2, "03"), 2);
     }
 
     private static void bounds() {

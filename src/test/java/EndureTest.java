@@ -29,6 +29,7 @@ public final class EndureTest {
         }
         run(calls, 1000, 30000);
         room();
+        allActs();
         c.close();
     }
 
@@ -70,6 +71,37 @@ public final class EndureTest {
             }
         }
         return sum;
+    }
+
+    /** As many ACTS, clauses and terms as there can be; more than any 512 calls could feed. */
+    private static void allActs() {
+        StringBuilder forty = new StringBuilder();
+        for (int i = 0; i < 40; i++) {
+            forty.append("keep ").append((char) ('a' + i / 26)).append((char) ('a' + i % 26)).append(";");
+        }
+        AssizeRide x = new AssizeRide();
+        for (int a = 0; a < 30; a++) {
+            c.due("act " + a, Clerk.say(x, forty.toString()).act(0, 63), a);
+        }
+        c.due("the 31st", Clerk.say(x, forty.toString()).act(0, 63), Clerk.FULL);
+        c.due("clauses of the last", x.told(29, 2), 40);
+        c.due("its last clause", Clerk.say(x, "bn").law(5, 0, 0), 29);
+        AssizeRide y = new AssizeRide();
+        StringBuilder terms = new StringBuilder();
+        for (int d = 0; d < 8; d++) {
+            terms.append("deed ").append((char) ('a' + d)).append("=0");
+            terms.append("or(0)and 1is 1or 2".repeat(6)).append(";");
+        }
+        int acts = 0;
+        for (int i = 0; i < 35; i++) {
+            int told = Clerk.say(y, terms.toString()).act(0, 63);
+            c.due("an act of many terms", told, y.fault(0) != 0 ? Clerk.NONE : told == Clerk.FULL ? Clerk.FULL : acts);
+            acts += told >= 0 ? 1 : 0;
+            c.due("it has no fault", y.fault(0), 0);
+            c.due("the latest act stands", Clerk.say(y, "h; x;").weigh(0, 0), 1);
+        }
+        c.due("acts that were taken", y.count(3), acts);
+        c.due("an empty one", Clerk.say(y, "jury 3;").act(0, 63) >= Clerk.FULL ? 1 : 0, 1);
     }
 
     /** A run's room has some 7.3 million fields and elements; this keeps far below it, in bytes. */

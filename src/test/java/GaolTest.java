@@ -88,6 +88,8 @@ public final class GaolTest {
         c.due("an empty gaol", x.deliver(0), 0);
         c.due("left none", x.left(0, 0), Clerk.NONE);
         c.due("the last one", x.deliver(3), 1);
+        x.commit(0, 0);
+        c.due("person 0, whom nobody accuses", x.deliver(0), 1);
         x.deliver(2);
         x.deliver(7);
         c.due("a wrong one changes nothing", x.left(0, 0), 2);

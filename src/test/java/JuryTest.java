@@ -140,6 +140,9 @@ public final class JuryTest {
         c.due("list by who lives today", x.list(p), 2);
         x.land(4, 100, 3);
         c.due("draw by the land of today", x.draw(p, 2), 4);
+        int q = Clerk.say(x, "t").plea(2, 1, 0, 0, 0, 5);
+        c.due("list with person 0", x.list(q), 3);
+        c.due("draw person 0", x.draw(q, 0), 0);
     }
 
     private static void challenging() {

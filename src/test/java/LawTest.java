@@ -58,6 +58,7 @@ public final class LawTest {
         for (int a = 2; a < 30; a++) {
             c.due("act " + a, act(x, 10, 1, "land 1;"), a);
         }
+        c.due("clauses of a later act", x.told(2, 2), 1);
         c.due("fault ahead of FULL", act(x, 10, 1, "land;"), Clerk.NONE);
         c.due("RANGE ahead of FULL", act(x, 9, 1, "land 1;"), Clerk.RANGE);
         c.due("the 31st", act(x, 10, 1, "land 2;"), Clerk.FULL);

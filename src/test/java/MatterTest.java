@@ -264,6 +264,13 @@ public final class MatterTest {
         c.due("was not put in", x.bad(0), 301);
         Clerk.say(x, "words t a h s;").act(0, 63);
         c.due("28 can be mended", x.mend(0), 0);
+        AssizeRide y = withPeople("deed t = a; words t a a; mend t;");
+        Clerk.say(y, "t").crown(0, 0, 0, 0);
+        Clerk.say(y, "a").words(0);
+        c.due("one is put in", y.mend(0), 1);
+        c.due("none is put in", y.mend(0), 0);
+        Clerk.say(y, "words t a a a a a;").act(0, 63);
+        c.due("there were two", y.mend(0), 3);
     }
 
     private static void bills() {

@@ -136,6 +136,13 @@ public final class RideTest {
         rode(x, 1, 2, 2, 8, 3, 14);
         x.road(1, 3, 1);
         x.commit(0, 1);
+        x.road(0, 1, Clerk.NONE);
+        x.road(0, 3, 2);
+        x.road(1, 3, Clerk.NONE);
+        c.due("only the k-th is cut off", x.late(1, 1), Clerk.NONE);
+        x.road(0, 1, 2);
+        x.road(0, 3, Clerk.NONE);
+        x.road(1, 3, 1);
         c.due("by the roads of now", x.late(1, 1), 2);
         rode(x, 1, 2, 3, 6, 2, 13);
     }

@@ -27,6 +27,7 @@ public final class RollTest {
         c.due("eleven", roll(x, 2, "000111222333444555666777888999000"), Clerk.NONE);
         c.due("two figures", roll(x, 1, "12"), Clerk.NONE);
         c.due("a letter", roll(x, 1, "12a"), Clerk.NONE);
+        c.due("a letter first", roll(x, 1, "a12"), Clerk.NONE);
         c.due("a blank", roll(x, 1, "12 "), Clerk.NONE);
         c.due("blanks between", roll(x, 1, "123 45"), Clerk.NONE);
         c.due("a sign below", roll(x, 1, "1/3"), Clerk.NONE);
@@ -59,6 +60,10 @@ public final class RollTest {
         join("123", "", "", 2, 0, no, no, 0);
         join("123", "123", "", 1, 0, 0, no, 1);
         join("123", "124", "", 2, 0, 0, no, 0);
+        join("120", "129", "", 2, 0, 0, no, 0);
+        join("990", "", "999", 2, 0, no, 0, 0);
+        join("129", "130", "", 4, 0, no, no, 0, no, 0, no, 0);
+        join("092", "902", "", 4, 0, no, no, 0, no, 0, no, 0);
         join("123", "", "456", 4, 0, no, no, 0, no, no, 0, 0);
         join("", "123", "456", 4, no, 0, no, 0, no, no, 0, 0);
         join("123", "123", "456", 3, 0, 0, no, 1, no, no, 0, 0);
