@@ -85,6 +85,15 @@ public final class DayOrderTest {
         laid(x, 0, 1, 2, 4);
         x.order();
         c.due("laid behind order", x.laid(0), Clerk.NONE);
+        for (int m = 0; m < 5; m++) {
+            x.hours(m, 2);
+            x.put(m);
+        }
+        c.due("two in each court", x.best(4), 4);
+        laid(x, 0, 1, 4, 5, 99);
+        c.due("two in each court, hours to spare", x.best(5), 4);
+        c.due("three in one of them", x.best(6), 5);
+        laid(x, 0, 1, 4, 5, 8);
     }
 
     private static void laid(AssizeRide x, int... places) {
@@ -207,41 +216,42 @@ public final class DayOrderTest {
     /** prove() tells which rows are right; of all rows of a small day the best one is asked for. */
     private static void bestOfAllRows() {
         Random random = new Random(7);
-        for (int round = 0; round < 60; round++) {
-            AssizeRide x = withMatters(4);
-            int hours = 1 + random.nextInt(4);
-            for (int m = 0; m < 4; m++) {
-                x.hours(m, 1 + random.nextInt(4));
+        for (int round = 0; round < 120; round++) {
+            int matters = round % 2 == 0 ? 4 : 5;
+            int hours = 1 + random.nextInt(matters == 4 ? 4 : 3);
+            AssizeRide x = withMatters(matters);
+            for (int m = 0; m < matters; m++) {
+                x.hours(m, 1 + random.nextInt(round % 3 == 0 ? 4 : 2));
                 x.put(m);
             }
-            for (int i = 0; i < 5; i++) {
-                x.witness(random.nextInt(4), 10 + random.nextInt(3));
+            for (int i = random.nextInt(6); i > 0; i--) {
+                x.witness(random.nextInt(matters), 10 + random.nextInt(3));
             }
-            int[] best = bestRow(x, hours);
-            c.due("most of round " + round, x.best(hours), best[4]);
-            laid(x, best[0], best[1], best[2], best[3]);
-            c.due("bound of round " + round, x.bound(hours) >= best[4] ? 1 : 0, 1);
+            int[] best = new int[matters];
+            c.due("most of round " + round, x.best(hours), bestRow(x, hours, best));
+            laid(x, best);
+            c.due("bound of round " + round, x.bound(hours) >= x.best(hours) ? 1 : 0, 1);
         }
     }
 
-    private static int[] bestRow(AssizeRide x, int hours) {
-        int[] best = {0, 0, 0, 0, -1};
+    /** Leaves the least row of those that lay the most in best: how many these are. */
+    private static int bestRow(AssizeRide x, int hours, int[] best) {
         int places = 2 * hours + 1;
-        for (int row = 0; row < places * places * places * places; row++) {
-            int[] at = {row / (places * places * places), row / (places * places) % places, row / places % places,
-                row % places};
+        int rows = (int) Math.pow(places, best.length);
+        int most = -1;
+        for (int row = 0; row < rows; row++) {
+            int[] at = new int[best.length];
             StringBuilder text = new StringBuilder();
-            for (int place : at) {
-                text.append(place == 2 * hours ? 'z' : (char) (48 + place));
+            for (int i = best.length - 1, rest = row; i >= 0; i--, rest /= places) {
+                at[i] = rest % places == 2 * hours ? 99 : rest % places;
+                text.insert(0, at[i] == 99 ? 'z' : (char) (48 + at[i]));
             }
             int laid = prove(x, hours, text.toString());
-            if (laid > best[4]) {
-                for (int i = 0; i < 4; i++) {
-                    best[i] = at[i] == 2 * hours ? 99 : at[i];
-                }
-                best[4] = laid;
+            if (laid > most) {
+                System.arraycopy(at, 0, best, 0, at.length);
+                most = laid;
             }
         }
-        return best;
+        return most;
     }
 }
