@@ -51,9 +51,11 @@ public final class LawTest {
         c.due("no act of it", x.count(3), 2);
         AssizeRide y = new AssizeRide();
         act(y, 0, 1, "jury 3; deed t = a; words t a b; land;");
-        c.due("none of its clauses is in the next", act(y, 0, 1, "jury 4; deed t = b;"), 0);
+        c.due("none of its clauses is in the next", act(y, 0, 1, "deed t = b; jury 4;"), 0);
         c.due("clauses of the next", y.told(0, 2), 2);
         c.due("the next deed is its own", Clerk.say(y, "t; b;").weigh(0, 0), 1);
+        c.due("and has its own tests", Clerk.say(y, "t; a;").weigh(0, 0), 0);
+        c.due("none of them is met", y.why(0), 0);
         c.due("the faulty jury isn't there", x.tells(7, 399, 1), 6);
         for (int a = 2; a < 30; a++) {
             c.due("act " + a, act(x, 10, 1, "land 1;"), a);
@@ -363,6 +365,9 @@ public final class LawTest {
         condition("a or b unless c and d", "a;c;", 1, 5, Clerk.NONE);
         condition("a or b unless c and d", "a;c;d;", 0, 13, 2);
         condition("deed", "deed;", 1, 1, Clerk.NONE);
+        String deepest = repeat("a or b and not (", 6) + "a or b and not c" + repeat(")", 6);
+        condition(deepest, "b;", 1, 10922, Clerk.NONE);
+        condition(deepest, "b; c;", 0, 10922 + (1 << 14), 0);
         condition("a" + repeat(" and a", 19), "a;", 1, (1 << 20) - 1, Clerk.NONE);
         condition("b" + repeat(" and a", 18) + " and c", "a;b;", 0, (1 << 19) - 1, 19);
     }

@@ -47,6 +47,8 @@ public final class PeopleTest {
         c.due("nothing was cut", x.count(7), 1200);
         c.due("end of 1199", x.end(1199), 1199);
         c.due("no half of twenty", x.feed(1, 1, 1, 1, 1), Clerk.FULL);
+        c.due("end of 1181", x.end(1181), 1181);
+        c.due("no room for the last of twenty", x.feed(1, 1, 1, 1, 1), Clerk.FULL);
         c.due("end of 1180", x.end(1180), 1180);
         c.due("room for twenty", x.feed(1, 1, 1, 1, 1), 1200);
         c.due("bytes above 127", x.act(0, 1), Clerk.NONE);

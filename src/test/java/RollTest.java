@@ -93,6 +93,8 @@ public final class RollTest {
         roll(x, 1, "123");
         c.due("a roll was told since", x.joined(0, 0), Clerk.ABSENT);
         c.due("join anew", x.join(), 1);
+        c.due("join the same again", x.join(), 1);
+        rows(x, 0, 0, Clerk.NONE, 1);
         c.due("sure", x.joined(0, 3), 1);
         roll(x, 0, "");
         c.due("a shorter roll", x.join(), 2);
