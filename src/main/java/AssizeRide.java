@@ -14,6 +14,8 @@ public final class AssizeRide {
     private static final int LAST_DAY = 399;
     private static final int MOST_POUNDS = 9999;
     private static final int MOST_HOURS = 10;
+    // The document's life of an object: rows that only grow have room for that many calls.
+    private static final int MOST_CALLS = 512;
 
     private final Tape tape = new Tape();
     private final People people = new People();
@@ -47,7 +49,7 @@ public final class AssizeRide {
     // ---- the tape
 
     public int feed(int a, int b, int c, int d, int e) {
-        if (!tape.hasRoom(20)) {
+        if (!tape.hasRoom(Tape.BYTES_A_FEED)) {
             return FULL;
         }
         tape.addInt(a);
@@ -691,6 +693,7 @@ public final class AssizeRide {
     /** The bytes that were fed, and the TOKENS of the text that was taken off last. */
     private static final class Tape {
         static final int MOST_BYTES = 1200;
+        static final int BYTES_A_FEED = 20;
         static final int MOST_LETTERS = 12;
         static final int MOST_FIGURES = 4;
         static final long NO_WORD = 0;
@@ -1009,8 +1012,10 @@ public final class AssizeRide {
         static final int MOST_CLAUSES = 40;
         // One ACT too many is still read, because its FAULTS are told ahead of FULL.
         static final int CLAUSE_ROOM = (MOST_ACTS + 1) * MOST_CLAUSES;
-        // 512 calls feed at most 10,240 bytes, and four bytes make at most three items.
-        static final int ITEM_ROOM = 8192;
+        // No text makes more items than it has bytes: a TERM makes one, and a second behind the last of a
+        // TEST, for which the two bytes or more of "or" pay (of the first TEST those of "deed"); all else
+        // makes fewer items than bytes. What a FAULT drops is free again, but its bytes were fed.
+        static final int ITEM_ROOM = MOST_CALLS * Tape.BYTES_A_FEED;
         static final int DEED = 0;
         static final int WORDS = 1;
         static final int DEATH = 2;
@@ -1785,8 +1790,9 @@ public final class AssizeRide {
         static final int MOST = 100;
         static final int MOST_SETTLED = 40;
         static final int MOST_RIGHTINGS = 40;
-        // A call changes one STATE, or such as a call of its own each had changed before.
-        static final int LOG_ROOM = 1200;
+        // A call logs one of its own; a settle, kin or seen that logs many logs one more, at most, for each
+        // keep, hear or pardon ahead of it.
+        static final int LOG_ROOM = 2 * MOST_CALLS;
 
         private final Law law;
         private final People people;
