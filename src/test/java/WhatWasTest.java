@@ -8,6 +8,7 @@ public final class WhatWasTest {
         rightings();
         statesAsKnown();
         eachChangeIsOnItsDay();
+        busiestRun();
         checkedStates();
         checkedByIndictment();
         checkedByJurors();
@@ -134,6 +135,42 @@ public final class WhatWasTest {
 
     private static int indict(AssizeRide x) {
         return Clerk.indict(x, "t", "w", "a;");
+    }
+
+    /** Nearly 512 calls in which settle() and kin() change all MATTERS again and again: no change is lost. */
+    private static void busiestRun() {
+        AssizeRide x = Clerk.under("deed t = 1; keep t; jury 1; hundred 0; bill 0; land 0; void;");
+        x.person(0, 0);
+        x.person(0, 0);
+        for (int m = 0; m < 16; m++) {
+            x.feed(0x74202020, 0x20202020, 0x20202020, 0x20202020, 0x20202020);
+            x.crown(0, 0, 0, 0);
+            x.feed(0x74202020, 0x20202020, 0x20202020, 0x20202020, 0x20202020);
+            x.words(m);
+            x.allege(m);
+            c.due("bill " + m, x.bill(m, 0), 2);
+        }
+        for (int round = 1; round <= 7; round++) {
+            for (int m = 0; m < 16; m++) {
+                x.draw(m, 0);
+                x.hear(m);
+                x.keep(m);
+            }
+            x.feed(0x74202020, 0x20202020, 0x20202020, 0x20202020, 0x20202020);
+            c.due("settled in round " + round, x.settle(true), 16);
+            x.pass(1);
+            c.due("begun again in round " + round, x.kin(0, 1, 1), 16);
+            x.kin(0, 1, 0);
+            x.pass(1);
+        }
+        x.draw(15, 0);
+        c.due("the last hearing", x.hear(15), 3);
+        for (int round = 1; round <= 7; round++) {
+            c.due("settled on the first day of round " + round, x.stateOn(0, 2 * round - 2, 399), 5);
+            c.due("begun again on the second day of round " + round, x.stateOn(15, 2 * round - 1, 399), 2);
+        }
+        c.due("the latest change", x.stateOn(15, 14, 14), 3);
+        c.due("and of another", x.stateOn(14, 14, 14), 2);
     }
 
     private static void checkedStates() {
