@@ -81,4 +81,36 @@ final class Clerk {
         swear(x, m, jurors);
         return say(x, facts).hear(m);
     }
+
+    /** MATTER 0, a CROWN one of the deed t against person 0, brought to a STATE where the law of deed t allows it. */
+    static AssizeRide bringTo(int state, AssizeRide x) {
+        say(x, "t").crown(0, 0, 0, 0);
+        say(x, "w").words(0);
+        say(x, state == 1 ? "b;" : "a;").allege(0);
+        if (state > 0) {
+            x.bill(0, 0);
+        }
+        if (state > 2) {
+            x.draw(0, 0);
+            say(x, state == 4 ? "" : "a;").hear(0);
+        }
+        if (state == 7) {
+            x.keep(0);
+        } else if (state > 4) {
+            x.judge(0);
+        }
+        if (state == 6) {
+            x.benefit(0);
+        }
+        if (state > 7) {
+            x.pardon(0, 0, 0);
+        }
+        if (state == 9) {
+            x.seen(0, 0);
+        }
+        if (x.matter(0, 7) != state) {
+            throw new IllegalStateException("not brought to state " + state);
+        }
+        return x;
+    }
 }
