@@ -1,4 +1,5 @@
 import java.util.Random;
+import java.util.function.Supplier;
 
 /** Promises 52 to 58: the ORDER of a DAY, the best one also against all rows tried out. */
 public final class DayOrderTest {
@@ -219,27 +220,39 @@ public final class DayOrderTest {
         for (int round = 0; round < 120; round++) {
             int matters = round % 2 == 0 ? 4 : 5;
             int hours = 1 + random.nextInt(matters == 4 ? 4 : 3);
-            AssizeRide x = withMatters(matters);
-            for (int m = 0; m < matters; m++) {
-                x.hours(m, 1 + random.nextInt(round % 3 == 0 ? 4 : 2));
-                x.put(m);
-            }
-            for (int i = random.nextInt(6); i > 0; i--) {
-                x.witness(random.nextInt(matters), 10 + random.nextInt(3));
-            }
+            int mostHours = round % 3 == 0 ? 4 : 2;
+            long seed = random.nextLong();
+            AssizeRide x = someDay(seed, matters, mostHours);
             int[] best = new int[matters];
-            c.due("most of round " + round, x.best(hours), bestRow(x, hours, best));
+            int most = bestRow(() -> someDay(seed, matters, mostHours), hours, best);
+            c.due("most of round " + round, x.best(hours), most);
             laid(x, best);
             c.due("bound of round " + round, x.bound(hours) >= x.best(hours) ? 1 : 0, 1);
         }
     }
 
+    private static AssizeRide someDay(long seed, int matters, int mostHours) {
+        Random random = new Random(seed);
+        AssizeRide x = withMatters(matters);
+        for (int m = 0; m < matters; m++) {
+            x.hours(m, 1 + random.nextInt(mostHours));
+            x.put(m);
+        }
+        for (int i = random.nextInt(6); i > 0; i--) {
+            x.witness(random.nextInt(matters), 10 + random.nextInt(3));
+        }
+        return x;
+    }
+
     /** Leaves the least row of those that lay the most in best: how many these are. */
-    private static int bestRow(AssizeRide x, int hours, int[] best) {
+    private static int bestRow(Supplier<AssizeRide> made, int hours, int[] best) {
         int places = 2 * hours + 1;
         int rows = (int) Math.pow(places, best.length);
         int most = -1;
+        AssizeRide x = made.get();
         for (int row = 0; row < rows; row++) {
+            // Four calls a row: a new object stays within its 512.
+            x = row % 90 == 89 ? made.get() : x;
             int[] at = new int[best.length];
             StringBuilder text = new StringBuilder();
             for (int i = best.length - 1, rest = row; i >= 0; i--, rest /= places) {

@@ -389,6 +389,15 @@ public final class EdgeActTest extends Edges {
         String deepest = repeat("a or b and not (", 6) + "a or b and not c" + repeat(")", 6);
         due("all that can wait, six deep", weigh(deepest, "b;"), 1);
         due("and the innermost told", weigh(deepest, "b;c;"), 0);
+        AssizeRide x = Clerk.under("deed t = " + deepest + ";");
+        say(x, "t;b;").weigh(0, 0);
+        due("seven of its tests hold", x.why(0), 0x2AAA);
+        say(x, "t;b;c;").weigh(0, 0);
+        due("the outermost lacks first", x.why(1), 0);
+        say(x, "t;a;b;c;").weigh(0, 0);
+        due("none lacks", x.why(1), NONE);
+        say(x, "t;").weigh(0, 0);
+        due("the outermost, if none is told", x.why(1), 0);
         due("and six times not", weigh("not (not (not (not (not (not (a))))))", "a;"), 1);
     }
 

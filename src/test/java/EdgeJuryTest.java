@@ -671,6 +671,9 @@ public final class EdgeJuryTest extends Edges {
         x.challenge(0, 2);
         due("the next moves up", x.juror(0, 1), 1);
         due("behind the last", x.juror(0, 2), NONE);
+        x.challenge(0, 5);
+        due("the next is first", x.juror(0, 0), 1);
+        due("and alone", x.juror(0, 1), NONE);
     }
 
     private void wrongHearings() {

@@ -529,7 +529,10 @@ public final class EdgeMatterTest extends Edges {
         say(x, "a;").allege(1);
         due("of another matter one", x.mend(1), 1);
         due("good", x.bad(1), 0);
-        due("by its own words alone", x.mend(1), 0);
+        due("none more", x.mend(1), 0);
+        say(x, "words t w;").act(0, 63);
+        due("the other has its own words", x.bad(0), 0);
+        due("which this one hasn't", x.bad(1), 300);
     }
 
     private static int twiceMended() {
@@ -592,6 +595,29 @@ public final class EdgeMatterTest extends Edges {
         due("28 stay mended", x.mend(0), 0);
         say(x, "refuse t; strike 0;").act(0, 63);
         due("NONE ahead of FULL", x.mend(0), NONE);
+        upTo28("a b c d e f g h", "a x x x x x x x x x x x x x x x x x x x", 7);
+        upTo28("a b c d e f g h", "x x x x x x x x x x x x x x x x x x x h", 7);
+        upTo28("a b c d", "x x x x x x x x b x x x x x x x x x d x", 2);
+        upTo28("a a", "x x x x x x x x x x x x x x x x x x x a", 1);
+        upTo28("a", "a x x x x x x x x x x x x x x x x x x x", 0);
+    }
+
+    /** Twenty words have just those put in that lacked: as many more as there is room for go in, and not one beside. */
+    private void upTo28(String law, String twenty, int lacked) {
+        String[] more = {"p", "q", "r", "s", "t", "u", "v", "w", "y"};
+        StringBuilder rest = new StringBuilder();
+        for (int i = 0; i < 8 - lacked; i++) {
+            rest.append(' ').append(more[i]);
+        }
+        AssizeRide x = indicted("words t " + law + "; mend t;");
+        say(x, twenty).words(0);
+        due(law + " into twenty", x.mend(0), lacked);
+        if (lacked < 8) {
+            say(x, "words t" + rest + ";").act(0, 63);
+            due("up to 28", x.mend(0), 8 - lacked);
+        }
+        say(x, "words t y;").act(0, 63);
+        due("and not one more", x.mend(0), FULL);
     }
 
     private void wrongBills() {

@@ -227,6 +227,9 @@ public final class EdgeTapeTest extends Edges {
         }
         due("fine of eleven letters", say(x, "abcdefghijk").tells(3, 0, 0), 0);
         due("a word of thirteen letters is none", say(x, "abcdefghijklm").tells(3, 0, 0), STATE);
+        for (String word : new String[] {"a", "b", "y", "z", "abc", "zzzzzzzzzzzz"}) {
+            unlikeWords(word);
+        }
     }
 
     private void numbersOfFour() {
@@ -254,6 +257,38 @@ public final class EdgeTapeTest extends Edges {
             due("void and byte " + b, faultOf("void" + (char) b + ";"), want);
         }
         due("each sign is a token", faultOf("deed t=(a+1);"), 0);
+        for (int b = 0; b < 256; b++) {
+            boolean isFine = b >= '0' && b <= '9' || b == 32 || b == 10;
+            due("land 3 and byte " + b, faultOf("land 3" + (char) b + ";"), b == ';' ? 1007 : isFine ? 0 : 1006);
+        }
+        for (int b : new int[] {'/', ':', '`', '{', '@', '[', 'A', 'Z'}) {
+            due("a fact's number and byte " + b, say(Clerk.under("deed t=1;"), "t;a=3" + (char) b + ";").weigh(0, 0), NONE);
+            due("a fact's word and byte " + b, say(Clerk.under("deed t=1;"), "t;a" + (char) b + ";").weigh(0, 0), NONE);
+        }
+    }
+
+    /** A row of FACTS has each W once: one that is like no other is taken beside nineteen of two letters. */
+    private void unlikeWords(String word) {
+        AssizeRide x = Clerk.under("deed t=" + word + ";");
+        for (int first = 0; first < 26 * 26; first += 19) {
+            StringBuilder row = new StringBuilder("t;" + word + ";");
+            for (int i = first; i < first + 19 && i < 26 * 26; i++) {
+                row.append((char) ('a' + i / 26)).append((char) ('a' + i % 26)).append(';');
+            }
+            feedWhole(x, row.toString());
+            due(word + " beside " + row, x.weigh(0, 0), 1);
+        }
+    }
+
+    /** Blanks fill the last twenty bytes, so that no end() is called. */
+    private static void feedWhole(AssizeRide x, String text) {
+        for (int i = 0; i < text.length(); i += 20) {
+            int[] fives = new int[5];
+            for (int j = 0; j < 20; j++) {
+                fives[j / 4] = fives[j / 4] << 8 | (i + j < text.length() ? text.charAt(i + j) : ' ');
+            }
+            x.feed(fives[0], fives[1], fives[2], fives[3], fives[4]);
+        }
     }
 
     private void bytesInOrder() {

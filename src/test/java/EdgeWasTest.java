@@ -169,6 +169,9 @@ public final class EdgeWasTest extends Edges {
         due("from the righting's day on", x.stateOn(0, 3, 5), 7);
         due("a day ahead of that", x.stateOn(0, 2, 5), NONE);
         due("the later day, though told first", x.stateOn(0, 5, 5), 0);
+        x.putRight(0, 8, 4);
+        due("the day ahead, told last", x.stateOn(0, 4, 5), 8);
+        due("the later day still", x.stateOn(0, 5, 5), 0);
         x.putRight(0, 6, 5);
         due("of one day that told last", x.stateOn(0, 5, 5), 6);
         x.bill(0, 0);

@@ -78,7 +78,6 @@ public final class LongActsTest {
         while (MOST_CALLS - calls > 1) {
             int feeds = Math.min(FEEDS, MOST_CALLS - calls - 1);
             c.due("densest act " + acts, act(acts, deeds("1or", 20, feeds * 20)), acts);
-            c.due("its fault", x.fault(0), 0);
             acts++;
         }
         c.due("densest acts", acts, 9);
@@ -87,21 +86,28 @@ public final class LongActsTest {
 
     /** Eight long ACTS, each of a day of its own, and each is THE LAW of its day as it was told. */
     private static void allStand(String test, int tests) {
-        begin();
-        for (int a = 0; a < 8; a++) {
-            c.due("act " + a + " of " + test, act(a, deeds(test, tests, MOST_BYTES)), a);
-        }
+        tellEight(test, tests);
         for (int a = 0; a < 8; a++) {
             feed("a");
             c.due("law of day " + a + " with " + test, x.law(0, a, 5), a);
             calls++;
         }
         within512();
+        tellEight(test, tests);
         for (int a = 0; a < 8; a++) {
             feed("a;");
             boolean byNot = test.contains("not");
             c.due("weighed on day " + a + " with " + test, x.weigh(a, 0), byNot ? 0 : 1);
             c.due("met on day " + a + " with " + test, x.why(0), (1 << tests) - 1);
+            calls += 2;
+        }
+        within512();
+    }
+
+    private static void tellEight(String test, int tests) {
+        begin();
+        for (int a = 0; a < 8; a++) {
+            c.due("act " + a + " of " + test, act(a, deeds(test, tests, MOST_BYTES)), a);
         }
     }
 
@@ -142,6 +148,5 @@ public final class LongActsTest {
         }
         c.due("the 31st", act(0, "jury 3;"), Clerk.FULL);
         within512();
-        c.due("acts", x.count(3), 30);
     }
 }

@@ -174,6 +174,14 @@ public final class RideTest {
 
     /** The waits, the end and the shires of the best order; null without a way. */
     private static List<Integer> bestOrder(AssizeRide x, int from, int day, int set, int stay) {
+        int[][] far = new int[6][6];
+        int[] prisoners = new int[6];
+        for (int s = 0; s < 6; s++) {
+            prisoners[s] = x.count(10 + s);
+            for (int o = 0; o < 6; o++) {
+                far[s][o] = x.far(s, o);
+            }
+        }
         List<List<Integer>> orders = new ArrayList<>();
         collect(new ArrayList<>(), set, orders);
         List<Integer> best = null;
@@ -182,11 +190,11 @@ public final class RideTest {
             int clock = day;
             int waits = 0;
             for (int s : order) {
-                if (x.far(here, s) == Clerk.NONE) {
+                if (far[here][s] == Clerk.NONE) {
                     return null;
                 }
-                clock += x.far(here, s);
-                waits += x.count(10 + s) * (clock - day);
+                clock += far[here][s];
+                waits += prisoners[s] * (clock - day);
                 clock += stay;
                 here = s;
             }
