@@ -3,6 +3,7 @@ import java.util.LinkedHashMap;
 import java.util.List;
 import java.util.Map;
 import java.util.Random;
+import java.util.function.ToIntFunction;
 
 /**
  * Promises 5 to 12, 21 to 51 (but for mend) and 66 to 69 in random runs, against a model that keeps what happened and works each
@@ -15,11 +16,11 @@ public final class CourseOracleTest {
     private static final String[] CONDITIONS = {"a", "a and b", "a or b above 1 unless c", "not a",
         "a and not (b or c is 2)"};
 
-    /** Runs so many seeds (400 without an argument), from a first one on. */
     private static final int MOST_CALLS = 512;
-    // The last comparison of all that can be asked goes behind these.
+    // Leaves calls for the last step and for some of the questions behind it.
     private static final int CALLS_OF_STEPS = 360;
 
+    /** Runs so many seeds (600 without an argument), from a first one on. */
     public static void main(String[] args) {
         int seeds = args.length > 0 ? Integer.parseInt(args[0]) : 600;
         int first = args.length > 1 ? Integer.parseInt(args[1]) : 0;
@@ -76,7 +77,10 @@ public final class CourseOracleTest {
     private final int seed;
     private final Random random;
     private final AssizeRide x = new AssizeRide();
+    private final List<ToIntFunction<AssizeRide>> made = new ArrayList<>();
     private int calls;
+    private AssizeRide asker;
+    private int callsOfAsker;
     private int clock;
     private final List<int[]> people = new ArrayList<>();
     private final List<Telling> tellings = new ArrayList<>();
@@ -107,12 +111,31 @@ public final class CourseOracleTest {
         compareAll();
     }
 
-    /** What is answered behind the 512th call is free, so it isn't looked at. */
-    private void due(String call, int got, int want) {
+    /** Makes a call of the run, and keeps it. */
+    private void due(String name, ToIntFunction<AssizeRide> call, int want) {
+        made.add(call);
         calls++;
-        if (calls <= MOST_CALLS) {
-            c.due("seed " + seed + ", call " + calls + ": " + call, got, want);
+        c.due("seed " + seed + ", call " + calls + ": " + name, call.applyAsInt(x), want);
+    }
+
+    private void ask(String question, int got, int want) {
+        c.due("seed " + seed + ", behind call " + calls + ": " + question, got, want);
+    }
+
+    /**
+     * An object for which the run was played as for x, with a call left: what is answered behind the 512th is free, so the
+     * questions of one comparison go to as many objects as they need.
+     */
+    private AssizeRide asker() {
+        if (callsOfAsker >= MOST_CALLS) {
+            asker = new AssizeRide();
+            callsOfAsker = calls;
+            for (ToIntFunction<AssizeRide> call : made) {
+                call.applyAsInt(asker);
+            }
         }
+        callsOfAsker++;
+        return asker;
     }
 
     private int upTo(int n) {
@@ -130,7 +153,9 @@ public final class CourseOracleTest {
     }
 
     private void feed(String text) {
-        Clerk.say(x, text);
+        ToIntFunction<AssizeRide> say = r -> Clerk.say(r, text) == r ? 1 : 0;
+        made.add(say);
+        say.applyAsInt(x);
         calls += 2 + (text.length() + 19) / 20;
     }
 
@@ -430,16 +455,16 @@ public final class CourseOracleTest {
 
     private void person(int shire, int hundred) {
         boolean fits = people.size() < 120;
-        due("person", x.person(shire, hundred), fits ? people.size() : Clerk.FULL);
+        due("person", r -> r.person(shire, hundred), fits ? people.size() : Clerk.FULL);
         people.add(new int[] {shire, hundred});
     }
 
     private void land(int p, int pounds, int from) {
         if (isThere(p) && from <= 399) {
             tellings.add(new Telling('l', p, 0, pounds, from, clock));
-            due("land", x.land(p, pounds, from), tellings.size());
+            due("land", r -> r.land(p, pounds, from), tellings.size());
         } else {
-            due("land", x.land(p, pounds, from), Clerk.RANGE);
+            due("land", r -> r.land(p, pounds, from), Clerk.RANGE);
         }
     }
 
@@ -448,13 +473,13 @@ public final class CourseOracleTest {
         if (random.nextInt(3) == 0 && isThere(p)) {
             int from = Math.min(upTo(clock + 5), 399);
             tellings.add(new Telling('d', p, 0, 0, from, clock));
-            due("dead", x.dead(p, from), tellings.size());
+            due("dead", r -> r.dead(p, from), tellings.size());
         }
     }
 
     private void kin(int p, int q, int degree) {
         if (!isThere(p) || !isThere(q) || p == q) {
-            due("kin", x.kin(p, q, degree), Clerk.RANGE);
+            due("kin", r -> r.kin(p, q, degree), Clerk.RANGE);
             return;
         }
         tellings.add(new Telling('k', p, q, degree, 0, clock));
@@ -470,14 +495,14 @@ public final class CourseOracleTest {
                 begun++;
             }
         }
-        due("kin", x.kin(p, q, degree), begun);
+        due("kin", r -> r.kin(p, q, degree), begun);
     }
 
     private void pass() {
         int n = random.nextInt(20) == 0 ? 101 - upTo(101) * upTo(1) : 1 + upTo(3);
         boolean fits = n >= 1 && n <= 100 && clock + n <= 399;
         clock += fits ? n : 0;
-        due("pass", x.pass(n), fits ? clock : Clerk.RANGE);
+        due("pass", r -> r.pass(n), fits ? clock : Clerk.RANGE);
     }
 
     private void enact() {
@@ -516,7 +541,7 @@ public final class CourseOracleTest {
         }
         feed(text.toString());
         boolean fits = acts.size() < 30;
-        due("act " + text, x.act(day, shires), fits ? acts.size() : Clerk.FULL);
+        due("act " + text, r -> r.act(day, shires), fits ? acts.size() : Clerk.FULL);
         if (fits) {
             acts.add(new Act(day, shires, clauses));
         }
@@ -545,9 +570,9 @@ public final class CourseOracleTest {
         feed(m.deed);
         int want = cases.size() >= 100 ? Clerk.FULL : cases.size();
         if (suer == Clerk.NONE) {
-            due("crown", x.crown(accused, m.shire, m.hundred, m.day), want);
+            due("crown", r -> r.crown(accused, m.shire, m.hundred, m.day), want);
         } else {
-            due("plea", x.plea(suer, accused, m.shire, m.hundred, m.day, pounds), want);
+            due("plea", r -> r.plea(suer, accused, m.shire, m.hundred, m.day, pounds), want);
         }
         if (want >= 0) {
             cases.add(m);
@@ -597,11 +622,11 @@ public final class CourseOracleTest {
         int refused = m == null ? Clerk.RANGE : m.state != 0 ? Clerk.STATE : 0;
         List<String> words = List.of("w", "z", "v", "w").subList(random.nextInt(6) == 0 ? 1 : 0, 4 - upTo(1) * upTo(1));
         feed(String.join(" ", words));
-        due("words", x.words(number), refused != 0 ? refused : words.size());
+        due("words", r -> r.words(number), refused != 0 ? refused : words.size());
         StringBuilder text = new StringBuilder();
         Map<String, Integer> facts = someFacts(m, text);
         feed(text.toString());
-        due("allege", x.allege(number), refused != 0 ? refused : facts.size());
+        due("allege", r -> r.allege(number), refused != 0 ? refused : facts.size());
         if (refused == 0) {
             m.words = words;
             m.alleged = facts;
@@ -612,7 +637,7 @@ public final class CourseOracleTest {
         Case m = crownAt(number);
         int want = m == null || votes > 23 ? Clerk.RANGE : m.state != 0 ? Clerk.STATE
                 : badness(m) == 0 && votes >= tells(12, m) ? 2 : 1;
-        due("bill", x.bill(number, votes), want);
+        due("bill", r -> r.bill(number, votes), want);
         if (want >= 0) {
             change(m, want);
         }
@@ -623,7 +648,7 @@ public final class CourseOracleTest {
         int want = m == null || !isThere(p) ? Clerk.RANGE
                 : !isOpen(m) || m.witnesses.contains(p) || m.jurors.contains(p) || p == m.suer || p == m.accused ? Clerk.STATE
                 : m.witnesses.size() == 4 ? Clerk.FULL : m.witnesses.size() + 1;
-        due("witness", x.witness(number, p), want);
+        due("witness", r -> r.witness(number, p), want);
         if (want >= 0) {
             m.witnesses.add(p);
         }
@@ -636,8 +661,8 @@ public final class CourseOracleTest {
             int which = random.nextInt(20) == 0 ? size - upTo(1) * (size + 1) : random.nextInt(Math.max(1, size));
             int want = m == null ? Clerk.RANGE : !wantsJurors(m) ? Clerk.STATE : m.jurors.size() >= tells(7, m) ? Clerk.FULL
                     : which < 0 || which >= size ? Clerk.RANGE : drawable(m).get(which);
-            due("list", x.list(number), m == null ? Clerk.RANGE : !wantsJurors(m) ? Clerk.STATE : size);
-            due("draw", x.draw(number, which), want);
+            due("list", r -> r.list(number), m == null ? Clerk.RANGE : !wantsJurors(m) ? Clerk.STATE : size);
+            due("draw", r -> r.draw(number, which), want);
             if (want < 0) {
                 return;
             }
@@ -651,7 +676,7 @@ public final class CourseOracleTest {
                 : m.jurors.get(random.nextInt(m.jurors.size()));
         int want = m == null || !m.jurors.contains(p) ? Clerk.RANGE
                 : !wantsJurors(m) || m.challenged.size() >= tells(10, m) ? Clerk.STATE : m.challenged.size() + 1;
-        due("challenge", x.challenge(number, p), want);
+        due("challenge", r -> r.challenge(number, p), want);
         if (want >= 0) {
             m.jurors.remove((Integer) p);
             m.challenged.add(p);
@@ -666,7 +691,7 @@ public final class CourseOracleTest {
         int want = m == null ? Clerk.RANGE : !wantsJurors(m) || !isFull(m) ? Clerk.STATE
                 : !isMade(m, facts) ? 4 : isPlea(m) ? 5 : isSettledAsNone(m.deed) ? 4 : 3;
         feed(text.toString());
-        due("hear", x.hear(number), want);
+        due("hear", r -> r.hear(number), want);
         if (want >= 0) {
             m.found = facts;
             m.heard = clock;
@@ -689,7 +714,7 @@ public final class CourseOracleTest {
         int which = random.nextInt(6) == 0 ? upTo(3) : isToDie ? 2 + upTo(1) : upTo(1);
         if (which == 0) {
             boolean can = isGuilty && tells(5, m) == 1;
-            due("keep", x.keep(number), m == null ? Clerk.RANGE : can ? 1 : Clerk.STATE);
+            due("keep", r -> r.keep(number), m == null ? Clerk.RANGE : can ? 1 : Clerk.STATE);
             if (can) {
                 change(m, 7);
             }
@@ -697,11 +722,11 @@ public final class CourseOracleTest {
             if (isGuilty) {
                 sentence(m);
             }
-            due("judge", x.judge(number), m == null ? Clerk.RANGE : !isGuilty ? Clerk.STATE : m.death ? 1 : 0);
+            due("judge", r -> r.judge(number), m == null ? Clerk.RANGE : !isGuilty ? Clerk.STATE : m.death ? 1 : 0);
         } else if (which == 2) {
             boolean can = isToDie && tells(4, m) == 1
                     && cases.stream().noneMatch(k -> k.state == 6 && k.accused == m.accused);
-            due("benefit", x.benefit(number), m == null ? Clerk.RANGE : can ? 1 : Clerk.STATE);
+            due("benefit", r -> r.benefit(number), m == null ? Clerk.RANGE : can ? 1 : Clerk.STATE);
             if (can) {
                 m.death = false;
                 change(m, 6);
@@ -716,7 +741,7 @@ public final class CourseOracleTest {
         int to = clock + upTo(9) - upTo(1);
         boolean inRange = m != null && shire < 6 && to >= clock && to <= 399;
         boolean can = inRange && m.state == 5 && m.death;
-        due("pardon", x.pardon(number, shire, to), !inRange ? Clerk.RANGE : can ? 1 : Clerk.STATE);
+        due("pardon", r -> r.pardon(number, shire, to), !inRange ? Clerk.RANGE : can ? 1 : Clerk.STATE);
         if (can) {
             m.death = false;
             m.banShire = shire;
@@ -728,7 +753,7 @@ public final class CourseOracleTest {
     private void settle(String deed, boolean as) {
         feed(deed);
         if (settled.size() == 40) {
-            due("settle", x.settle(as), Clerk.FULL);
+            due("settle", r -> r.settle(as), Clerk.FULL);
             return;
         }
         settled.add(new Object[] {deed, as});
@@ -744,13 +769,13 @@ public final class CourseOracleTest {
                 }
             }
         }
-        due("settle", x.settle(as), kept);
+        due("settle", r -> r.settle(as), kept);
     }
 
     private void undo(int number) {
         Case m = at(number);
         int want = m == null ? Clerk.RANGE : List.of(4, 5, 6).contains(m.state) ? again(m) : Clerk.STATE;
-        due("undo", x.undo(number), want);
+        due("undo", r -> r.undo(number), want);
     }
 
     private int gaolOf(int p) {
@@ -771,17 +796,17 @@ public final class CourseOracleTest {
         switch (random.nextInt(3)) {
             case 0:
                 int want = !isThere(p) || shire > 5 ? Clerk.RANGE : gaolOf(p) != Clerk.NONE ? Clerk.STATE : prisonersOf(shire) + 1;
-                due("commit", x.commit(p, shire), want);
+                due("commit", r -> r.commit(p, shire), want);
                 if (want >= 0) {
                     stays.add(new Stay(p, shire, clock, Clerk.NONE));
                 }
                 break;
             case 1:
-                due("bail", x.bail(p), !isThere(p) ? Clerk.RANGE : gaolOf(p) == Clerk.NONE ? Clerk.STATE : gaolOf(p));
+                due("bail", r -> r.bail(p), !isThere(p) ? Clerk.RANGE : gaolOf(p) == Clerk.NONE ? Clerk.STATE : gaolOf(p));
                 free(p);
                 break;
             default:
-                due("deliver", x.deliver(shire), shire > 5 ? Clerk.RANGE : deliver(shire));
+                due("deliver", r -> r.deliver(shire), shire > 5 ? Clerk.RANGE : deliver(shire));
                 break;
         }
     }
@@ -821,7 +846,7 @@ public final class CourseOracleTest {
             boolean inRange = isThere(p) && shire < 6 && b.from <= 399 && b.to <= 399 && b.to >= b.from && b.to >= clock
                     && b.pounds >= 1 && b.pounds <= 9999;
             int want = !inRange ? Clerk.RANGE : bonds.size() == 80 ? Clerk.FULL : bonds.size();
-            due("bond", x.bond(p, shire, b.from, b.to, b.pounds), want);
+            due("bond", r -> r.bond(p, shire, b.from, b.to, b.pounds), want);
             if (want >= 0) {
                 bonds.add(b);
             }
@@ -849,23 +874,23 @@ public final class CourseOracleTest {
                 n += 100;
             }
         }
-        due("seen", x.seen(p, shire), inRange ? n : Clerk.RANGE);
+        due("seen", r -> r.seen(p, shire), inRange ? n : Clerk.RANGE);
     }
 
     private void putRight(int number, int state, int from) {
         Case m = at(number);
         int want = m == null || state > 9 || from > clock ? Clerk.RANGE : m.rightings == 40 ? Clerk.FULL : m.rightings + 1;
-        due("putRight", x.putRight(number, state, from), want);
+        due("putRight", r -> r.putRight(number, state, from), want);
         if (want >= 0) {
             m.rightings++;
             m.changes.add(new Change(state, from, clock));
         }
     }
 
-    // ---- everything that can be asked; it changes nothing, so it isn't counted as calls of the run
+    // ---- everything that can be asked; asked of like objects, so that none is asked more than it has calls
 
     private void compareAll() {
-        int before = calls;
+        callsOfAsker = MOST_CALLS;
         for (int number = 0; number < cases.size(); number++) {
             compareCase(number, cases.get(number));
         }
@@ -877,11 +902,10 @@ public final class CourseOracleTest {
         }
         for (int i = 0; i <= left.size(); i++) {
             for (int what = 0; what < 2; what++) {
-                due("left", x.left(i, what), i < left.size() ? left.get(i)[what] : Clerk.NONE);
+                ask("left", asker().left(i, what), i < left.size() ? left.get(i)[what] : Clerk.NONE);
             }
         }
         compareCounts();
-        calls = before;
     }
 
     private int bondState(Bond b) {
@@ -891,44 +915,44 @@ public final class CourseOracleTest {
     private void compareBond(int number, Bond b) {
         int[] want = {b.p, b.shire, b.from, b.to, b.pounds, bondState(b), Clerk.NONE};
         for (int what = 0; what < want.length; what++) {
-            due("bonded " + number + " what " + what, x.bonded(number, what), want[what]);
+            ask("bonded " + number + " what " + what, asker().bonded(number, what), want[what]);
         }
     }
 
     private void comparePerson(int p) {
-        due("in gaol " + p, x.prisoner(p, 0), gaolOf(p));
+        ask("in gaol " + p, asker().prisoner(p, 0), gaolOf(p));
         int waited = 0;
         for (Stay s : stays) {
             waited += s.p == p ? (s.out == Clerk.NONE ? clock : s.out) - s.in : 0;
         }
-        due("waited " + p, x.prisoner(p, 1), waited);
+        ask("waited " + p, asker().prisoner(p, 1), waited);
         int day = Math.min(upTo(clock + 4), 399);
         int known = Math.min(upTo(clock + 2), 399);
-        due("landOn " + p, x.landOn(p, day, known), landFor(p, day, known));
-        due("deadOn " + p, x.deadOn(p, day, known), isDead(p, day, known) ? 1 : 0);
+        ask("landOn " + p, asker().landOn(p, day, known), landFor(p, day, known));
+        ask("deadOn " + p, asker().deadOn(p, day, known), isDead(p, day, known) ? 1 : 0);
         int q = random.nextInt(people.size());
-        due("kinOn " + p, x.kinOn(p, q, known), p == q ? Clerk.RANGE : kinFor(p, q, known));
+        ask("kinOn " + p, asker().kinOn(p, q, known), p == q ? Clerk.RANGE : kinFor(p, q, known));
     }
 
     private void compareCase(int number, Case m) {
         int[] want = {isPlea(m) ? 1 : 0, m.suer, m.accused, m.shire, m.hundred, m.day, m.pounds, m.state, m.death ? 1 : 0,
             m.fine, m.jurors.size(), m.witnesses.size(), m.challenged.size(), 1, m.heard, Clerk.ABSENT};
         for (int what = 0; what < want.length; what++) {
-            due("matter " + number + " what " + what, x.matter(number, what), want[what]);
+            ask("matter " + number + " what " + what, asker().matter(number, what), want[what]);
         }
         for (int i = 0; i <= m.jurors.size(); i++) {
-            due("juror " + i + " of " + number, x.juror(number, i), i < m.jurors.size() ? m.jurors.get(i) : Clerk.NONE);
+            ask("juror " + i + " of " + number, asker().juror(number, i), i < m.jurors.size() ? m.jurors.get(i) : Clerk.NONE);
         }
-        due("bad " + number, x.bad(number), isPlea(m) ? Clerk.RANGE : badness(m));
-        due("full " + number, x.full(number), isFull(m) ? 1 : 0);
-        due("lacks " + number, x.lacks(number), Math.max(0, tells(11, m) - ofHundred(m)));
-        due("check " + number, x.check(number), check(m));
+        ask("bad " + number, asker().bad(number), isPlea(m) ? Clerk.RANGE : badness(m));
+        ask("full " + number, asker().full(number), isFull(m) ? 1 : 0);
+        ask("lacks " + number, asker().lacks(number), Math.max(0, tells(11, m) - ofHundred(m)));
+        ask("check " + number, asker().check(number), check(m));
         int p = random.nextInt(people.size());
-        due("may " + number, x.may(number, p), may(m, p, clock, clock) ? 1 : 0);
+        ask("may " + number, asker().may(number, p), may(m, p, clock, clock) ? 1 : 0);
         for (int i = 0; i < 4; i++) {
             int day = i == 0 ? clock : Math.min(upTo(clock + 1), 399);
             int known = i < 2 ? clock : Math.min(upTo(clock + 1), 399);
-            due("stateOn " + number, x.stateOn(number, day, known), stateOn(m, day, known));
+            ask("stateOn " + number, asker().stateOn(number, day, known), stateOn(m, day, known));
         }
     }
 
@@ -966,14 +990,14 @@ public final class CourseOracleTest {
         }
         int[] want = {clock, people.size(), tellings.size(), acts.size(), cases.size(), bonds.size(), chest, 0, 0, Clerk.NONE};
         for (int what = 0; what < want.length; what++) {
-            due("count " + what, x.count(what), want[what]);
+            ask("count " + what, asker().count(what), want[what]);
         }
         for (int s = 0; s < 6; s++) {
-            due("prisoners of " + s, x.count(10 + s), prisonersOf(s));
+            ask("prisoners of " + s, asker().count(10 + s), prisonersOf(s));
         }
         for (int k = 0; k < 10; k++) {
             int state = k;
-            due("matters of state " + k, x.count(20 + k), (int) cases.stream().filter(m -> m.state == state).count());
+            ask("matters of state " + k, asker().count(20 + k), (int) cases.stream().filter(m -> m.state == state).count());
         }
     }
 }

@@ -19,6 +19,7 @@ public final class LongActsTest {
         longestWords();
         faultsBetween();
         thirtyActs();
+        allClauses();
         c.close();
     }
 
@@ -147,6 +148,29 @@ public final class LongActsTest {
             c.due("act " + a + " of thirty", act(0, deeds("1or", 20, 16 * 20)), a);
         }
         c.due("the 31st", act(0, "jury 3;"), Clerk.FULL);
+        within512();
+    }
+
+    /** Thirty ACTS of forty clauses each, and one more that is read to its end ahead of FULL. */
+    private static void allClauses() {
+        begin();
+        StringBuilder forty = new StringBuilder();
+        for (int i = 0; i < 40; i++) {
+            forty.append(i < 26 ? "keep " : "mend ").append((char) ('a' + i % 26)).append(';');
+        }
+        for (int a = 0; a < 30; a++) {
+            c.due("act " + a + " of forty clauses", act(0, forty.toString()), a);
+        }
+        c.due("the 31st of forty clauses", act(0, forty.toString()), Clerk.FULL);
+        c.due("clauses of the last", x.told(29, 2), 40);
+        c.due("clauses of the 31st", x.told(30, 2), Clerk.NONE);
+        feed("n");
+        c.due("the last clause of all", x.law(6, 0, 0), 29);
+        feed("z");
+        c.due("the last of its kind", x.law(5, 0, 0), 29);
+        feed("o");
+        c.due("there was none such", x.law(6, 0, 0), Clerk.NONE);
+        calls += 5;
         within512();
     }
 }
